@@ -630,9 +630,9 @@ public final class EntailedLand {
         }
 
         private static int firstChild(Land land, int children, int tie) {
-            int first = Integer.numberOfTrailingZeros(children);
-            for (int k = first + 1; k < MOST_PEOPLE; k++) {
-                if ((children >> k & 1) == 1 && goesAhead(land, k, first, tie)) {
+            int first = NONE;
+            for (int k = 0; k < MOST_PEOPLE; k++) {
+                if ((children >> k & 1) == 1 && (first == NONE || goesAhead(land, k, first, tie))) {
                     first = k;
                 }
             }
