@@ -516,8 +516,6 @@ public final class EntailedLand {
             living |= 1 << people;
             if (woman) {
                 women |= 1 << people;
-            } else {
-                women &= ~(1 << people);
             }
             people++;
         }
@@ -593,7 +591,6 @@ public final class EntailedLand {
 
         void listHeirs(Land land, int person, int tie) {
             size = 0;
-            seen = 0;
             if (!land.has(person)) {
                 return;
             }

@@ -164,6 +164,15 @@ public final class PromisesTest {
         Due.is("5 a woman now", y.person(0, 1), 1);
         Due.is("5 a man now", y.person(1, 1), 0);
         Due.is("5 the text stays", y.land(), 2);
+        y.tens();
+        y.cut(1);
+        Due.is("5 land behind acts", y.land(), 2);
+        Due.is("5 acts", y.about(7), 0);
+        Due.is("5 none to undo", y.undo(), LATE);
+        Due.tell(y, "T00");
+        Due.is("5 nobody once more", y.land(), 0);
+        Due.is("5 nobody lives", y.about(1), 0);
+        Due.is("5 nobody holds", y.about(2), NONE);
     }
 
     private static void about() {
@@ -597,14 +606,13 @@ public final class PromisesTest {
 
     private static void rests() {
         EntailedLand x = Due.land("T00P009P002");
-        int[] counts = {5, 5, 5, 5, 6, 5, 5, 5, 5, 5};
         for (int w = 0; w < 10; w++) {
             Due.is("21 rests(" + w + ", 0)", x.rests(w, 0), restsOf(w));
             Due.is("21 the first one, " + w, x.rests(w, 1), 0);
         }
-        Due.is("21 five", x.rests(5, 0), counts[5]);
-        Due.is("21 six", x.rests(4, 0), counts[4]);
-        Due.is("21 five of nothing", x.rests(0, 0), counts[0]);
+        Due.is("21 five", x.rests(5, 0), 5);
+        Due.is("21 six", x.rests(4, 0), 6);
+        Due.is("21 five of nothing", x.rests(0, 0), 5);
         Due.is("21 w", x.rests(-1, 0), BAD);
         Due.is("21 w", x.rests(10, 0), BAD);
         Due.is("21 what", x.rests(0, -1), BAD);
