@@ -9,7 +9,8 @@ import java.util.Random;
 public final class ModelTest {
     private static final int UNKNOWN = -1, BAD = -2, LATE = -3, FULL = -4, NONE = -9;
     private static final int RUNS = 800;
-    private static final int CALLS = 200;
+    private static final int MOST_CALLS = 512;
+    private static final int CALLS_OF_ONE_STEP = 75;
 
     private ModelTest() {
     }
@@ -541,7 +542,9 @@ public final class ModelTest {
             EntailedLand x = new EntailedLand();
             Model m = new Model();
             int costly = 0;
-            for (int call = 0; call < CALLS; call++) {
+            int began = Due.asked();
+            // Each answer asked for is one call; one step more and the states at the end are still within the 512.
+            for (int call = 0; call < MOST_CALLS && Due.asked() - began + 2 * CALLS_OF_ONE_STEP <= MOST_CALLS; call++) {
                 int kind = call == 0 ? 0 : r.nextInt(32);
                 if (kind == 29 && costly++ > 0) {
                     kind = 28;

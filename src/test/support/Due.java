@@ -5,15 +5,21 @@ import java.util.List;
 final class Due {
     private static int wrong = 0;
     private static int asked = 0;
+    private static String words = "";
 
     private Due() {
+    }
+
+    /** The document's words by which the answers that follow are due: its promise or "Terms", then the sentence. */
+    static void sentence(String told) {
+        words = "[" + told + "] ";
     }
 
     static void is(String call, long got, long want) {
         asked++;
         if (got != want) {
             wrong++;
-            System.out.println(call + " answered " + got + ", due is " + want);
+            System.out.println(words + call + " answered " + got + ", due is " + want);
         }
     }
 
@@ -23,6 +29,10 @@ final class Due {
 
     static int wrong() {
         return wrong;
+    }
+
+    static int asked() {
+        return asked;
     }
 
     static void end() {
@@ -59,5 +69,12 @@ final class Due {
             }
         }
         return all;
+    }
+
+    /** about(0), about(1), .. one behind the other. */
+    static void about(EntailedLand x, int... due) {
+        for (int what = 0; what < due.length; what++) {
+            is("about(" + what + ")", x.about(what), due[what]);
+        }
     }
 }
