@@ -409,6 +409,12 @@ public final class ActEdgesTest {
             Due.holds("as it was ahead of act " + k, states.get(k).equals(Due.state(x)));
         }
         Due.is("none is left", x.undo(), LATE);
+        x.bear(0, 1);
+        x.undo();
+        x.bear(2, 0);
+        Due.is("a man where a woman was undone", x.person(3, 1), 0);
+        Due.is("of another parent", x.person(3, 0), 2);
+        Due.is("no child of the first one", x.person(0, 4), 0b110);
     }
 
     private static int act(EntailedLand x, int kind) {

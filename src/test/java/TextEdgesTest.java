@@ -332,6 +332,9 @@ public final class TextEdgesTest {
         Due.is("land", x.land(), 1);
         Due.about(x, 1, 1, 0, 0, 0, 0, 0, 0, 7);
         Due.is("a woman now", x.person(0, 1), 1);
+        Due.tell(x, "T00P000");
+        Due.is("land", x.land(), 1);
+        Due.is("a man now", x.person(0, 1), 0);
     }
 
     private static void landForgets() {
