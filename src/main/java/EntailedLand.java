@@ -507,6 +507,31 @@ public final class EntailedLand {
             return bits;
         }
 
+        /** Of children of one PERSON (bits) the first in ORDER; by SONS women too: their LINES are nobody. */
+        int firstChild(int children, int tie) {
+            int first = NONE;
+            for (int k = 0; k < MOST_PEOPLE; k++) {
+                if ((children >> k & 1) == 1 && (first == NONE || goesAhead(k, first, tie))) {
+                    first = k;
+                }
+            }
+            return first;
+        }
+
+        // It looks at the rows itself: through ageOf and has the calls would go too deep (LANGUAGE.md, rule 11).
+        private boolean goesAhead(int greater, int lesser, int tie) {
+            if (lesser < 0 || greater <= lesser || greater >= MOST_PEOPLE) {
+                return false;
+            }
+            int ofGreater = women >> greater & 1;
+            int ofLesser = women >> lesser & 1;
+            if (tie == DAUGHTERS && ofGreater != ofLesser) {
+                return ofGreater > ofLesser;
+            }
+            boolean older = ages[greater] > ages[lesser];
+            return older != (tie == YOUNGEST);
+        }
+
         void gains(int parent, boolean woman, int age) {
             if (people < 0 || people >= MOST_PEOPLE) {
                 return;
@@ -620,29 +645,10 @@ public final class EntailedLand {
         private void addChildren(Land land, int person, int tie, int depth) {
             int left = land.childrenOf(person);
             for (int k = 0; k < MOST_PEOPLE && left != 0; k++) {
-                int child = firstChild(land, left, tie);
+                int child = land.firstChild(left, tie);
                 left &= ~(1 << child);
                 addLine(land, child, tie, depth);
             }
-        }
-
-        private static int firstChild(Land land, int children, int tie) {
-            int first = NONE;
-            for (int k = 0; k < MOST_PEOPLE; k++) {
-                if ((children >> k & 1) == 1 && (first == NONE || goesAhead(land, k, first, tie))) {
-                    first = k;
-                }
-            }
-            return first;
-        }
-
-        /** Of two children the one of the greater number against the other. */
-        private static boolean goesAhead(Land land, int greater, int lesser, int tie) {
-            if (tie == DAUGHTERS && land.isWoman(greater) != land.isWoman(lesser)) {
-                return land.isWoman(greater);
-            }
-            boolean older = land.ageOf(greater) > land.ageOf(lesser);
-            return older != (tie == YOUNGEST);
         }
 
         int firstOf(int people) {

