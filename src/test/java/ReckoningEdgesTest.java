@@ -33,6 +33,7 @@ public final class ReckoningEdgesTest {
         oddsUnknown();
         oddsDoesNotLive();
         oddsAtSomeTime();
+        oddsNobodyHoldsThen();
         oddsLeastTerms();
         lenderBad();
         lenderFirstTen();
@@ -337,6 +338,16 @@ public final class ReckoningEdgesTest {
         EntailedLand chain = Due.land("T10P009P008P107P206P305P404P503");
         for (int p = 0; p < 7; p++) {
             oddsAre(chain, p, 1, p + 1);
+        }
+    }
+
+    private static void oddsNobodyHoldsThen() {
+        Due.sentence("Terms 3: in each order as likely (also where nobody holds any more, though PEOPLE live)");
+        EntailedLand daughters = Due.land("T00P009P018P017P016P015P014P013");
+        EntailedLand oneSon = Due.land("T00P009P018P017P016P015P014P003");
+        for (int p = 0; p < 7; p++) {
+            oddsAre(daughters, p, p == 0 ? 1 : 0, 1);
+            oddsAre(oneSon, p, p == 0 || p == 6 ? 1 : 0, p == 6 ? 2 : 1);
         }
     }
 
